@@ -1,0 +1,18 @@
+/** Runs every test of the project. */
+public final class AllTests {
+    private AllTests() {
+    }
+
+    public static void main(String[] args) {
+        ChangeTests.run();
+        MinuteTests.run();
+        QueryTests.run();
+        ScriptTests.run();
+        UndoTests.run();
+        ModelTests.run();
+        FormTests.run();
+        if (!Check.close()) {
+            System.exit(1);
+        }
+    }
+}
