@@ -9,6 +9,13 @@ public final class AllTests {
         QueryTests.run();
         ScriptTests.run();
         UndoTests.run();
+        TermsTests.run();
+        OneMinuteTests.run();
+        ScriptTermsTests.run();
+        ChangesTermsTests.run();
+        ThrowsTests.run();
+        AnswerTests.run();
+        Sentences.run();
         ModelTests.run();
         FormTests.run();
         if (!Check.close()) {

@@ -116,7 +116,7 @@ final class FormTests {
     }
 
     private static void spend(FoodTruckRota rota) {
-        for (int call = 0; call < 60; call++) {
+        for (int call = 0; call < 55; call++) {
             rota.advance(60);
             rota.servedWithin(60);
             rota.setWeather(3);

@@ -253,11 +253,8 @@ final class Model {
     private int script() {
         String text = buffer;
         buffer = "";
-        if (!SCRIPT.matcher(text).matches()) {
-            errorPosition = 0;
-            while (errorPosition < text.length() && canGoOn(text.substring(0, errorPosition + 1))) {
-                errorPosition++;
-            }
+        if (!hasForm(text)) {
+            errorPosition = errorPositionOf(text);
             throw new IllegalArgumentException();
         }
         String[] commands = text.split(";");
@@ -270,6 +267,19 @@ final class Model {
             }
         }
         return commands.length;
+    }
+
+    static boolean hasForm(String script) {
+        return SCRIPT.matcher(script).matches();
+    }
+
+    /** How many characters, from the first, can continue some script; for a script without the form. */
+    static int errorPositionOf(String script) {
+        int position = 0;
+        while (position < script.length() && canGoOn(script.substring(0, position + 1))) {
+            position++;
+        }
+        return position;
     }
 
     private static boolean canGoOn(String start) {

@@ -73,7 +73,7 @@ final class ModelTests {
 
     /** Mostly arguments that can be taken, and now and then one just outside. */
     private int[] arguments(int index) {
-        int truck = near(0, Math.max(0, rota.truckCount() - 1));
+        int truck = near(0, Math.max(0, (int) model.ask("truckCount", 0, 0) - 1));
         switch (index) {
             case 1:
                 return new int[] {truck, near(0, 3), near(1, 50)};
@@ -174,6 +174,9 @@ final class ModelTests {
     }
 
     private void compare(String call, Supplier<Object> program, Supplier<Object> due) {
+        if (calls >= CALLS) {
+            return;
+        }
         calls++;
         Check.same(run + "call " + calls + " " + call, answer(program), answer(due));
     }

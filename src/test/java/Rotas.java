@@ -6,9 +6,7 @@ final class Rotas {
     /** Trucks without stock and permits. */
     static FoodTruckRota trucks(int number) {
         FoodTruckRota rota = new FoodTruckRota();
-        for (int truck = 0; truck < number; truck++) {
-            rota.addTruck();
-        }
+        add(rota, number);
         return rota;
     }
 
@@ -31,6 +29,63 @@ final class Rotas {
             }
         }
         return rota;
+    }
+
+    /**
+     * A square in the middle of day 0 with something in every place that a refused call could spoil. It has 3 trucks:
+     * truck 0 stands on pitch 0, truck 1 on pitch 3 and, on day 6, on pitch 4, and truck 2 has no permit.
+     * The script buffer holds "truc".
+     */
+    static FoodTruckRota busy() {
+        FoodTruckRota rota = trucks(2);
+        rota.setPrice(3, 11);
+        rota.save();
+        rota.addTruck();
+        permitAndAssign(rota, 0, 0, 0);
+        permitAndAssign(rota, 1, 3, 0);
+        permitAndAssign(rota, 1, 4, 6);
+        rota.addStock(0, 0, 9);
+        rota.addStock(0, 3, 50);
+        rota.addStock(1, 1, 50);
+        rota.setWeather(3);
+        Check.fails("a command that fails", IllegalStateException.class, () -> run(rota, "truck;free 2 2"));
+        Check.fails("a wrong form", IllegalArgumentException.class, () -> run(rota, "wait x"));
+        rota.advance(4);
+        rota.renderTruck(1);
+        typeAll(rota, "truc");
+        return rota;
+    }
+
+    static void add(FoodTruckRota rota, int number) {
+        for (int truck = 0; truck < number; truck++) {
+            rota.addTruck();
+        }
+    }
+
+    /** A truck with so many customers, 3 to 9, in its queue; the first wants dish 3, which is being prepared. */
+    static FoodTruckRota queueing(int customers) {
+        FoodTruckRota rota = trucks(1);
+        rota.setWeather(3);
+        rota.advance(1);
+        permitAndAssign(rota, 0, 0, 0);
+        rota.addStock(0, 3, 9);
+        rota.advance(customers / 3);
+        rota.setWeather(customers % 3);
+        if (customers % 3 > 0) {
+            rota.advance(1);
+        }
+        return rota;
+    }
+
+    static void permitAll(FoodTruckRota rota, int truck) {
+        for (int weekday = 0; weekday < 7; weekday++) {
+            rota.grantPermit(truck, weekday);
+        }
+    }
+
+    static void permitAndAssign(FoodTruckRota rota, int truck, int pitch, int weekday) {
+        rota.grantPermit(truck, weekday);
+        rota.assign(truck, pitch, weekday);
     }
 
     static void typeAll(FoodTruckRota rota, String script) {

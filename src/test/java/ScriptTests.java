@@ -257,15 +257,22 @@ final class ScriptTests {
         String[] failing = {"stock 3 0 1", "stock 0 4 1", "stock 0 0 0", "price 4 1", "price 0 0", "permit 3 0",
             "permit 0 7", "permit 0 0", "revoke 0 7", "revoke 0 1", "assign 0 5 0", "assign 0 0 8", "assign 0 0 1",
             "assign 0 1 0", "assign 1 0 0", "free 5 0", "free 0 7", "free 1 0", "weather 4", "wait 0", "wait 61"};
-        FoodTruckRota rota = Rotas.open(1);
-        Rotas.run(rota, "truck;truck;permit 1 0");
-        String before = Rotas.all(rota);
         for (String script : failing) {
+            FoodTruckRota rota = trucksForFailing();
+            String before = Rotas.all(rota);
             Check.fails(script, STATE, () -> Rotas.run(rota, "wait;" + script + ";wait 0"));
             Check.same("failedCommand() of " + script, rota.failedCommand(), 1);
+            Check.same("all after " + script, Rotas.all(rota), before);
         }
+        FoodTruckRota rota = trucksForFailing();
         Check.fails("truck", STATE, () -> Rotas.run(rota, "truck;truck;truck;truck"));
         Check.same("failedCommand()", rota.failedCommand(), 3);
-        Check.same("all", Rotas.all(rota), before);
+        Check.same("truckCount()", rota.truckCount(), 3);
+    }
+
+    private static FoodTruckRota trucksForFailing() {
+        FoodTruckRota rota = Rotas.open(1);
+        Rotas.run(rota, "truck;truck;permit 1 0");
+        return rota;
     }
 }

@@ -1,4 +1,6 @@
+import java.util.List;
 import java.util.NoSuchElementException;
+import java.util.function.Consumer;
 
 /** Promises 47 to 49: undo and the snapshot. */
 final class UndoTests {
@@ -19,31 +21,25 @@ final class UndoTests {
     }
 
     private static void eachChange() {
-        FoodTruckRota rota = Rotas.stocked(2, 9);
-        rota.setWeather(2);
-        rota.advance(5);
-        Runnable[] changes = {
-            rota::addTruck, () -> rota.addStock(1, 0, 9), () -> rota.setPrice(3, 9), () -> rota.grantPermit(0, 4),
-            () -> rota.revokePermit(0, 0), () -> rota.release(1, 0), () -> rota.setWeather(3), () -> rota.advance(60),
-            () -> Rotas.run(rota, "truck;wait 60")};
-        for (int index = 0; index < changes.length; index++) {
+        List<Consumer<FoodTruckRota>> changes = List.of(
+            FoodTruckRota::addTruck, rota -> rota.addStock(1, 0, 9), rota -> rota.setPrice(3, 9), rota -> rota.grantPermit(0, 4),
+            rota -> rota.revokePermit(0, 0), rota -> rota.assign(0, 4, 6), rota -> rota.release(1, 0),
+            rota -> rota.setWeather(3), rota -> rota.advance(60), rota -> Rotas.run(rota, "truck;wait 60"));
+        for (int index = 0; index < changes.size(); index++) {
+            FoodTruckRota rota = Rotas.stocked(2, 9);
+            rota.grantPermit(0, 6);
+            rota.setWeather(2);
+            rota.advance(5);
             String before = Rotas.all(rota);
-            changes[index].run();
+            changes.get(index).accept(rota);
             Check.same("changed " + index, Rotas.all(rota).equals(before), false);
             Check.same("undo() " + index, rota.undo(), 7);
-            Check.same("all " + index, Rotas.all(rota), before);
-            changes[index].run();
+            changes.get(index).accept(rota);
             rota.undo();
-            changes[7].run();
+            rota.advance(60);
             rota.undo();
             Check.same("all " + index, Rotas.all(rota), before);
-            rota.setWeather(2);
         }
-        rota.grantPermit(0, 6);
-        String before = Rotas.all(rota);
-        rota.assign(0, 4, 6);
-        rota.undo();
-        Check.same("all of assign", Rotas.all(rota), before);
     }
 
     private static void latestEight() {
