@@ -20,6 +20,7 @@ final class ScriptTermsTests {
         Sentences.test(HEAD, "wait without a number passes 1 minute", ScriptTermsTests::waitAlone);
         Sentences.test(HEAD, "The commands are executed in order", ScriptTermsTests::executedInOrder);
         Sentences.test(HEAD, "either all of them take effect or none", ScriptTermsTests::allOrNone);
+        Sentences.test(HEAD, "either all of them take effect or none", ScriptTermsTests::noneLater);
         Sentences.test(HEAD, "The error position of a script that does not have this form is the index of the first character"
                 + " that cannot continue any script of this form", ScriptTermsTests::firstWrongCharacter);
         Sentences.test(HEAD, "or the length of the script if every character can and the end comes too early",
@@ -231,6 +232,32 @@ final class ScriptTermsTests {
         Check.same("prices", rota.price(0) + " " + rota.price(1) + " " + rota.price(2) + " " + rota.price(3), "1 2 3 4");
         Check.same("day 0", Rotas.dayText(rota, 0), "---1-");
         Check.same("truckCount()", rota.truckCount(), 4);
+    }
+
+    /** A script begins with the present state, whatever a refused script, a prediction or an undo has tried before. */
+    private static void noneLater() {
+        FoodTruckRota plain = Rotas.busy();
+        Rotas.run(plain, "k;weather 2");
+        String due = Rotas.all(plain);
+        FoodTruckRota failed = Rotas.busy();
+        Check.fails("a failing script", STATE, () -> Rotas.run(failed, "k;price 0 9;wait 30;free 2 2"));
+        Check.same("run after a failing script", Rotas.run(failed, "truck;weather 2"), 2);
+        Check.same("all after a failing script", Rotas.all(failed), due);
+        FoodTruckRota predicted = Rotas.busy();
+        predicted.servedWithin(60);
+        Check.same("run after a prediction", Rotas.run(predicted, "k;weather 2"), 2);
+        Check.same("all after a prediction", Rotas.all(predicted), due);
+        FoodTruckRota undone = Rotas.busy();
+        undone.advance(60);
+        undone.undo();
+        Check.same("run after an undo", Rotas.run(undone, "k;weather 2"), 2);
+        Check.same("all after an undo", Rotas.all(undone), due);
+        FoodTruckRota restored = Rotas.busy();
+        restored.save();
+        restored.advance(60);
+        restored.restore();
+        Check.same("run after restore", Rotas.run(restored, "k;weather 2"), 2);
+        Check.same("all after restore", Rotas.all(restored), due);
     }
 
     private static void firstWrongCharacter() {
