@@ -1017,7 +1017,7 @@ public final class FoodTruckRota {
                 return false;
             }
             step.command = command;
-            if (command == Command.WAIT && !nextIs(' ')) {
+            if (command == Command.WAIT && !hasAt(position, ' ')) {
                 step.arguments[0] = 1;
                 return true;
             }
@@ -1062,15 +1062,14 @@ public final class FoodTruckRota {
 
         private int matchedSigns(String word) {
             int matched = 0;
-            while (matched < word.length() && position + matched < text.length()
-                    && text.charAt(position + matched) == word.charAt(matched)) {
+            while (matched < word.length() && hasAt(position + matched, word.charAt(matched))) {
                 matched++;
             }
             return matched;
         }
 
         private boolean readSign(char sign) {
-            if (!nextIs(sign)) {
+            if (!hasAt(position, sign)) {
                 return false;
             }
             position++;
@@ -1089,8 +1088,8 @@ public final class FoodTruckRota {
             return sign - '0';
         }
 
-        private boolean nextIs(char sign) {
-            return position >= 0 && position < text.length() && text.charAt(position) == sign;
+        private boolean hasAt(int index, char sign) {
+            return index >= 0 && index < text.length() && text.charAt(index) == sign;
         }
     }
 }

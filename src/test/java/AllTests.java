@@ -15,9 +15,11 @@ public final class AllTests {
         ChangesTermsTests.run();
         ThrowsTests.run();
         AnswerTests.run();
+        DescriptionTests.run();
         Sentences.run();
         ModelTests.run();
         FormTests.run();
+        ReadmeTests.run();
         if (!Check.close()) {
             System.exit(1);
         }
